@@ -13,6 +13,7 @@ final class LaneTest {
         toldAgain();
         blanks();
         readAnew();
+        readAnewAgain();
         faultsOfTokens();
         faultsOfOrder();
         faultsOfNumbers();
@@ -137,6 +138,10 @@ final class LaneTest {
         }
         Due.is("count(0)", run.count(0), 3);
         Due.is("count(3)", run.count(3), 0);
+        run = Due.reading("need 1;", 1);
+        Due.is("told(1) of need alone", run.told(1), 2);
+        Due.is("told(2) of need alone", run.told(2), 1);
+        Due.is("told(3) of need alone", run.told(3), 3);
         run = Due.reading("lane 4;rope 3;need 4;drop 9;", 4);
         Due.is("told(0)", run.told(0), 4);
         Due.is("told(1)", run.told(1), 3);
@@ -193,9 +198,46 @@ final class LaneTest {
         Due.is("runner(0, 4)", run.runner(0, 4), 0);
     }
 
+    private static void nothingIsLeft(PancakeRun run) {
+        int[] first = {12, 2, 3, 3};
+        for (int what = 0; what < 4; what++) {
+            Due.is("told(" + what + ") anew", run.told(what), first[what]);
+        }
+        for (int y = 0; y < 12; y++) {
+            Due.is("yard(" + y + ", 0) anew", run.yard(y, 0), 0);
+            Due.is("yard(" + y + ", 1) anew", run.yard(y, 1), 0);
+        }
+        Due.is("count(0) anew", run.count(0), 0);
+    }
+
+    /** Nothing is left of a text before, of the one before that, or of one with a FAULT. */
+    private static void readAnewAgain() {
+        String signs = "lane 8;wind 0 1;wind 7 1;wet 0;wet 7;runner 1 1;rope 1;need 1;drop 1;";
+        PancakeRun run = Due.reading(signs, 9);
+        for (int i = 0; i < 3; i++) {
+            run.lane();
+            nothingIsLeft(run);
+        }
+        Due.type(run, signs + "lane");
+        Due.is("lane()", run.lane(), -10 - signs.length());
+        nothingIsLeft(run);
+        run.clear();
+        run.lane();
+        nothingIsLeft(run);
+    }
+
     private static void faultsOfTokens() {
         Due.fault("Lane 4;", 0);
         Due.fault("lane 4;lan 4;", 7);
+        Due.fault("lanez 4;", 0);
+        Due.fault("alane 4;", 0);
+        String[] words = {"lane", "wind", "wet", "runner", "rope", "need", "drop"};
+        for (String word : words) {
+            Due.fault("x" + word.substring(1) + " 4 1;", 0);
+            Due.fault(word.substring(0, word.length() - 1) + "x 4 1;", 0);
+            Due.fault(word.substring(1) + " 4 1;", 0);
+            Due.fault(word.toUpperCase() + " 4 1;", 0);
+        }
         Due.fault("lane 4;wets 4;", 7);
         Due.fault("lane -4;", 5);
         Due.fault("lane 4,", 6);
@@ -230,6 +272,9 @@ final class LaneTest {
         Due.fault("rope 1;rope 1;", 7);
         Due.fault("need 1;need 1;", 7);
         Due.fault("drop 1;drop 1;", 7);
+        Due.fault("rope 1;need 1;wet 1;drop 1;rope 1;", 27);
+        Due.fault("need 1;drop 1;runner 1 1;need 1;", 25);
+        Due.fault("drop 1;rope 1;wind 1 1;drop 1;", 23);
         Due.fault("runner 1 1;runner 1 1;runner 1 1;runner 1 1;", 33);
         // The first FAULT counts, whatever comes behind it.
         Due.fault("rope 4;#", 5);

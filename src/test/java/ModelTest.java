@@ -270,6 +270,10 @@ final class ModelTest {
             return signs.toString();
         }
         signs.append(wholeText());
+        if (random.nextInt(4) == 0) {
+            return signs.append(signs.substring(signs.indexOf(";", random.nextInt(signs.length() + 1)) + 1))
+                .toString();
+        }
         for (int i = random.nextInt(2); i < 2 && signs.length() > 0; i++) {
             int at = random.nextInt(signs.length());
             String others = "; 0123456789abcdlnrwt\u0000\u00ff{/:`A";

@@ -60,6 +60,9 @@ final class OddsTest {
         // On the spot at 0: 1 in 10; running from 0 to the end at 8: 3 in 10, in 2 BEATS.
         odds(run, 0, 2, 3, 10);
         odds(run, 0, 1, 0, 1);
+        // For two, the first must be on the spot, the second running.
+        run = Due.reading("lane 8;runner 4 0;need 2;rope 1;wet 0;wet 4;", 6);
+        odds(run, 0, 4, 3, 100);
     }
 
     private static void beatsThatWentBy() {

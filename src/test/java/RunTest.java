@@ -130,6 +130,13 @@ final class RunTest {
         Due.is("undo()", run.undo(), 0);
         at(run, 0, 0, 0, 0);
         Due.is("undo()", run.undo(), PancakeRun.STATE);
+        for (int i = 1; i <= 12; i++) {
+            Due.is("toss", run.toss(0, 2, 0, 1, 0), 2);
+        }
+        for (int i = 11; i >= 2; i--) {
+            Due.is("undo()", run.undo(), i - 2);
+            at(run, 0, 0, 4 * i, i);
+        }
     }
 
     private static void undoneOfTen() {
@@ -142,6 +149,9 @@ final class RunTest {
         at(run, 1, 12, 6, 0);
         for (int i = 9; i >= 0; i--) {
             Due.is("undo()", run.undo(), i);
+            // The 12 acts were by turns of RUNNER 1 and 0; i + 2 of them are left.
+            at(run, 0, (i + 2) / 2, (i + 2) / 2, 0);
+            at(run, 1, (i + 3) / 2 * 2, (i + 3) / 2, 0);
         }
         at(run, 0, 1, 1, 0);
         at(run, 1, 2, 1, 0);

@@ -123,6 +123,10 @@ final class TossTest {
         run = Due.reading("lane 12;runner 3 5;rope 1;wet 6;", 4);
         Due.is("wet at UP 1", run.best(0, 0, 1, 0), 6);
         Due.is("wet at UP 1", run.best(0, 0, 1, 1), 162);
+        // UP 4 alone would come to the end, but no turn makes it TURNED.
+        run = Due.reading("lane 8;runner 1 5;rope 1;wet 2;wet 4;wet 6;", 6);
+        Due.is("never UP 4", run.best(0, 0, 1, 0), 6);
+        Due.is("never UP 4", run.best(0, 0, 1, 1), 122);
         run = Due.reading("lane 9;runner 3 5;rope 1;wet 6;", 4);
         Due.is("end at UP 2", run.best(0, 0, 1, 0), 8);
         Due.is("end at UP 2", run.best(0, 0, 1, 1), 291);
