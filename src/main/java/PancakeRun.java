@@ -504,7 +504,18 @@ public final class PancakeRun {
                 if (token == END) {
                     return items;
                 }
-                if (!mayBegin(course, items) || !readItem(course)) {
+                int word = token;
+                if (!mayBegin(course, items)
+                    || !readNumber(leastFirst(word), mostFirst(word, course))) {
+                    return FAULTY;
+                }
+                int first = number;
+                if (word == WIND && !readNumber(1, 3) || word == RUNNER && !readNumber(0, 9)) {
+                    return FAULTY;
+                }
+                tell(course, word, first, number);
+                readToken();
+                if (token != SEMICOLON) {
                     return FAULTY;
                 }
             }
@@ -532,23 +543,6 @@ public final class PancakeRun {
                 default:
                     return false;
             }
-        }
-
-        private boolean readItem(Lane course) {
-            int word = token;
-            if (!readNumber(leastFirst(word), mostFirst(word, course))) {
-                return false;
-            }
-            int first = number;
-            if (word == WIND && !readNumber(1, 3)) {
-                return false;
-            }
-            if (word == RUNNER && !readNumber(0, 9)) {
-                return false;
-            }
-            tell(course, word, first, number);
-            readToken();
-            return token == SEMICOLON;
         }
 
         private static int leastFirst(int word) {
