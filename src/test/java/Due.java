@@ -18,6 +18,15 @@ final class Due {
         is(what, so ? 1 : 0, 1);
     }
 
+    /** That two long rows of answers are alike. */
+    static void same(String what, String got, String want) {
+        asked++;
+        if (!got.equals(want)) {
+            wrong++;
+            System.out.println(what + ":\n    " + got + "\n  due is\n    " + want);
+        }
+    }
+
     /** Ends the test: with exit code 1, if an answer was wrong or none was asked for. */
     static void end() {
         System.out.println(asked + " asked, " + wrong + " wrong");
@@ -44,6 +53,11 @@ final class Due {
         type(run, signs);
         is("lane() of \"" + signs + "\"", run.lane(), items);
         return run;
+    }
+
+    /** That a text has its FAULT at the first byte of what stands behind its good part. */
+    static void faultBehind(String good, String rest) {
+        fault(good + rest, good.length());
     }
 
     /** That a text has its FAULT at a place, and is left as it is. */

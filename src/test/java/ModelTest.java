@@ -3,7 +3,8 @@ import java.util.Random;
 /** Long runs of calls, with seeds that are told, compared with the Model call by call. */
 final class ModelTest {
     private static final int OBJECTS = 150;
-    private static final int CALLS = 512;
+    /** The document promises 512, and the last act begun may take some fifty. */
+    private static final int CALLS = 512 - 50;
     private static final int MOST_TOLD = 20;
 
     private final Random random;
