@@ -356,6 +356,11 @@ final class LaneEdgesTest {
         Due.fault(full + "wet1 ", 300);
         Due.fault(full + "rope ", 300);
         Due.fault(full + "rope", 299);
+        // The last TOKEN's last byte is the text's 300th.
+        Due.fault(full + " rope", 300);
+        Due.fault(full + "wet 1", 300);
+        Due.fault(full + " ropx", 296);
+        Due.fault(full + "wet12", 298);
     }
 
     /** "the first TOKEN that can't stand there". */
@@ -469,11 +474,13 @@ final class LaneEdgesTest {
         signs.append("wind 23 1;wet 23;runner 4 9;rope 3;need 4;drop 9;");
         String[] others = {"", "lane 24;", "lane 4;", "runner 1 1;"};
         for (String other : others) {
-            PancakeRun run = new PancakeRun();
-            // Twice, lest one that is read by turns should keep what it was told.
-            for (int round = 0; round < 2; round++) {
-                Due.type(run, signs.toString());
-                Due.holds("lane()", run.lane() > 6);
+            // Once and more, lest what is read by turns should keep what it was told.
+            for (int times = 1; times <= 3; times++) {
+                PancakeRun run = new PancakeRun();
+                for (int i = 0; i < times; i++) {
+                    Due.type(run, signs.toString());
+                    Due.holds("lane()", run.lane() > 6);
+                }
                 Due.type(run, other);
                 Due.is("lane()", run.lane(), other.isEmpty() ? 0 : 1);
                 isAsToldBy(run, other);
