@@ -17,8 +17,8 @@ public final class PancakeRun {
     private static final int RUNNING = 1;
     private static final int BEFORE_FAULT = -10;
 
-    private final Text text = new Text();
-    private final Reader reader = new Reader(text);
+    private final Reader reader = new Reader();
+    private final Text text = reader.text;
     private final Runners now = new Runners();
     private final Image firstImage = new Image();
     private final Image secondImage = new Image();
@@ -483,16 +483,12 @@ public final class PancakeRun {
         private static final int END = 0, LANE = 1, WIND = 2, WET = 3, RUNNER = 4, ROPE = 5;
         private static final int NEED = 6, DROP = 7, NUMBER = 8, SEMICOLON = 9, WRONG = 10;
 
-        private final Text text;
+        private final Text text = new Text();
         private int place = 0;
         private int start = 0;
         private int token = END;
         private int number = 0;
         private int toldOnce = 0;
-
-        Reader(Text text) {
-            this.text = text;
-        }
 
         /** How many ITEMS; FAULTY, if there is a fault. */
         int readInto(Lane course) {

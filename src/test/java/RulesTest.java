@@ -107,6 +107,8 @@ final class RulesTest {
             "\\bfloat\\b", "\\bvar\\b", "\\bObject\\b", "\\bnative\\b", "\\bvolatile\\b", "Exact\\b",
             "\\bhashCode\\b", "\\btoString\\b", "\\bequals\\b", "\\bprotected\\b", "TEXT \\+",
             "\\+ TEXT", "\\bSystem\\.(?!arraycopy)", "\\bnull\\b",
+            // What is made is given nothing, so no constructor hands out a part of its object.
+            "\\bnew [A-Z]\\w*\\((?!\\))", "[(,] *this *[,)]",
         };
         for (String word : words) {
             Matcher found = Pattern.compile(word).matcher(code);
